@@ -194,15 +194,21 @@ public final class BinaryTest {
         }
         for (int command = 1; command < 3; command++) {
             for (int b = 0; b < 256; b++) {
-                nameWithByte(command, b);
+                nameWithByte(command, b, 0);
+                nameWithByte(command, b, 1);
+                nameWithByte(command, b, 2);
             }
         }
     }
 
-    private static void nameWithByte(int command, int b) {
+    private static void nameWithByte(int command, int b, int at) {
         TunnelDesk desk = Drive.lettingAll();
         int c = Drive.greeted(desk);
-        Drive.send(desk, c, 5, command, 0, 3, 3, 'a', b, 'a', 1);
+        int[] name = {'a', 'a', 'a'};
+        name[at] = b;
+        Drive.send(desk, c, 5, command, 0, 3, 3);
+        Drive.send(desk, c, name);
+        Drive.send(desk, c, 1);
         check.due("not before the last byte", 3, desk.about(c, 0));
         Drive.send(desk, c, 1);
         boolean may = b >= 'a' && b <= 'z' || b >= '0' && b <= '9' || b == '.' || b == '-';

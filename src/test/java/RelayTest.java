@@ -44,7 +44,9 @@ public final class RelayTest {
         TunnelDesk desk = Drive.lettingAll();
         Drive.account(desk, "ab.c1");
         int c = desk.open();
+        Drive.ticks(desk, 3);
         check.due("free, GREETING", 1, desk.free(c));
+        check.due("no ticks are left", "0 0 0 0 0 0 0 0", Drive.about(desk, c));
         desk.open();
         Drive.send(desk, c, 5, 1, 2);
         check.due("free, PASSWORD", 2, desk.free(c));
@@ -77,38 +79,39 @@ public final class RelayTest {
     }
 
     private static void halfHandshakesAreLeftBehind() {
-        TunnelDesk desk = Drive.lettingAll();
         String line = "CONNECT abc:80\n\n";
-        for (int i = 1; i < line.length(); i++) {
-            int c = desk.open();
-            Drive.sendText(desk, c, line.substring(0, i));
-            desk.free(c);
+        for (int i = 1; i <= line.length(); i++) {
+            TunnelDesk desk = Drive.lettingAll();
+            Drive.sendText(desk, desk.open(), line.substring(0, i));
+            desk.free(0);
+            Drive.sendText(desk, desk.open(), "CONNECT 0123456789abcde:65535\n\n");
+            check.due("a line behind half a line", "4 0 0 0 1 0 15 65535", Drive.about(desk, 0));
+            desk.free(0);
+            Drive.sendText(desk, desk.open(), "CONNECT a:\n");
+            check.due("a line without digits", 6, desk.free(0));
         }
-        check.due("a line behind half lines", "4 0 0 0 1 0 1 1", Drive.about(desk, Drive.connecting(desk)));
-        desk.free(0);
         int[] request = {5, 1, 0, 5, 1, 0, 3, 3, 'x', 'y', 'z', 1, 1};
-        for (int i = 1; i < request.length; i++) {
-            int c = desk.open();
-            Drive.send(desk, c, Arrays.copyOf(request, i));
-            desk.free(c);
+        for (int i = 1; i <= request.length; i++) {
+            TunnelDesk desk = Drive.lettingAll();
+            Drive.send(desk, desk.open(), Arrays.copyOf(request, i));
+            desk.free(0);
+            Drive.send(desk, desk.open(), 5, 1, 0, 5, 1, 0, 1, 1, 2, 3, 4, 0, 9);
+            check.due("a request behind half a one", "4 0 2 0 0 " + 0x01020304 + " 0 9", Drive.about(desk, 0));
+            desk.free(0);
+            Drive.send(desk, desk.open(), 5, 1, 2);
+            check.due("methods of an earlier one don't count", 6, desk.free(0));
         }
-        int c = desk.open();
-        Drive.send(desk, c, 5, 1, 0, 5, 1, 0, 1, 1, 2, 3, 4, 0, 9);
-        check.due("a request behind half ones", "4 0 2 0 0 " + 0x01020304 + " 0 9", Drive.about(desk, c));
-        desk.free(c);
-        Drive.account(desk, "ab.c1");
         int[] login = {5, 1, 2, 1, 2, 'a', 'b', 2, 'c', '1'};
-        for (int i = 1; i < login.length; i++) {
-            c = desk.open();
-            Drive.send(desk, c, Arrays.copyOf(login, i));
-            desk.free(c);
+        for (int i = 1; i <= login.length; i++) {
+            TunnelDesk desk = new TunnelDesk();
+            Drive.account(desk, "ab.c1");
+            Drive.send(desk, desk.open(), Arrays.copyOf(login, i));
+            desk.free(0);
+            Drive.send(desk, desk.open(), login);
+            check.due("a login behind half a one", 3, desk.free(0));
+            Drive.send(desk, desk.open(), 5, 1, 0);
+            check.due("methods of an earlier one don't count", 6, desk.free(0));
         }
-        desk.open();
-        Drive.send(desk, c, login);
-        check.due("a login behind half ones", 3, desk.free(c));
-        desk.open();
-        Drive.send(desk, c, 5, 1, 1);
-        check.due("methods of an earlier one don't count", 6, desk.free(c));
     }
 
     private static void noSuchConnection() {

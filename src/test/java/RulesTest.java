@@ -166,7 +166,8 @@ public final class RulesTest {
     }
 
     private static void account() {
-        String[] wrong = {"", "ab", ".ab", "ab.", ".", "abcdefg.a", "a.abcdefg", "..a", "a-b", "a.bcdef.g"};
+        String[] wrong = {"", "ab", ".ab", "ab.", ".", "abcdefg.a", "a.abcdefg", "..a", "a-b", "a.bcdef.g",
+            "abcdefghijklmno", "abcdefghijklmn."};
         for (String text : wrong) {
             TunnelDesk desk = new TunnelDesk();
             Drive.type(desk, text);
@@ -238,5 +239,12 @@ public final class RulesTest {
         check.due("the pad's address", true, desk.lets(0, 1));
         Drive.type(desk, "a");
         check.due("the pad's name", false, desk.lets(TEN, 1));
+        desk.forget();
+        desk.rule(true, 1, TEN, 8, 0, 65535);
+        check.due("an address behind a name", true, Drive.letsName(desk, "10.0.0.1", 1));
+        desk.type('a');
+        check.due("a name again", false, desk.lets(TEN, 1));
+        Drive.named(desk, false, "", 0, 65535);
+        check.due("an address, with an empty pad again", true, desk.lets(TEN, 1));
     }
 }
