@@ -81,6 +81,26 @@ final class Drive {
         return c;
     }
 
+    /** A desk whose connection 0 is in this state, with empty rings. */
+    static TunnelDesk inState(int state) {
+        TunnelDesk desk = lettingAll();
+        switch (state) {
+            case 1: desk.open(); break;
+            case 2:
+                account(desk, "ab.c1");
+                desk.open();
+                send(desk, 0, 5, 1, 2);
+                down(desk, 0);
+                break;
+            case 3: greeted(desk); break;
+            case 4: connecting(desk); break;
+            case 5: relaying(desk); break;
+            case 6: ended(desk); break;
+            default: break;
+        }
+        return desk;
+    }
+
     /** All that can be taken out of DOWN, and the answer behind it. */
     static String down(TunnelDesk desk, int c) {
         StringBuilder taken = new StringBuilder();
