@@ -401,8 +401,8 @@ public final class BoundsOfTermsTest {
         String[][] others = {{"a", "b"}, {"a", "aa"}, {"a", "ba"}, {"a", "b-a"}, {"a", "a."}, {"a", "a.b"},
             {"a", "b.ab"}, {"b.c", "c"}, {"b.c", ".c"}, {"b.c", "bb.cc"}, {"b.c", "ab.c"}, {"b.c", "b-c"},
             {".c", "b.c"}, {".c", "c"}, {"bc", "c"}, {"bc", "b"}, {FIFTEEN, "bcdefghijklmno"},
-            {FIFTEEN, "abcdefghijklmn"}, {"bcdefghijklmno", FIFTEEN}, {"cdefghijklmno", FIFTEEN}, {"a", "1.1.1.1"}, {"1.1.1.1", "1.1.1.1"},
-            {"1", "1.1.1.1"}};
+            {FIFTEEN, "abcdefghijklmn"}, {"bcdefghijklmno", FIFTEEN}, {"cdefghijklmno", FIFTEEN}, {"a", "1.1.1.1"},
+            {"1.1.1.1", "1.1.1.1"}, {"1", "1.1.1.1"}};
         for (String[] pair : meant) {
             ruleAndName(pair[0], pair[1], true);
         }
